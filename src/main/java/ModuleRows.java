@@ -868,10 +868,12 @@ public final class ModuleRows {
          * some prime of M just as many. So all divisors may be asked, primes or not.
          */
         int fewestRows(Book book, int place) {
+            int size = book.sizeOf(place);
             int fewest = 0;
             for (int d = 2; d <= book.modulus(); d++) {
                 if (book.modulus() % d == 0) {
-                    fewest = Math.max(fewest, rowsBesideTimes(book, place, d));
+                    int left = size / Math.max(1, sizeOfTimes(book, place, d));
+                    fewest = Math.max(fewest, powersUpTo(left, d));
                 }
             }
             return fewest;
@@ -957,13 +959,16 @@ public final class ModuleRows {
             }
         }
 
-        private int rowsBesideTimes(Book book, int place, int d) {
+        private int sizeOfTimes(Book book, int place, int d) {
             shaper.start(book.modulus(), book.width());
             addForms(book, place, d, 0);
             shaper.shape();
-            int left = book.sizeOf(place) / Math.max(1, shaper.sizeBehind(0));
+            return shaper.sizeBehind(0);
+        }
+
+        private static int powersUpTo(int most, int d) {
             int count = 0;
-            for (int power = d; power <= left && count < WIDEST; power *= d) {
+            for (int power = d; power <= most && count < WIDEST; power *= d) {
                 count++;
             }
             return count;
