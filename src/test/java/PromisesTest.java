@@ -148,6 +148,13 @@ public final class PromisesTest {
         faulty("modulo5 1;", 1, 0);
         faulty("modulo 5a 1;", 1, 7);
         faulty("modulo 005 1;", 1, 7);
+        faulty("moduloz 5 1;", 1, 0);
+        faulty("modulo 5z 1;", 1, 7);
+        faulty("modulo a5 1;", 1, 7);
+        faulty("modulo 5{ 1;", 1, 8);
+        faulty("modulo 5` 1;", 1, 8);
+        faulty("modulo 5/ 1;", 1, 8);
+        faulty("modulo 5: 1;", 1, 8);
         faulty("modulo 5 1 1;", 1, 11);
         faulty("modulo 5 1;module;row 1 1;", 1, 24);
         faulty("modulo 5 2;module;row 1;", 1, 23);
