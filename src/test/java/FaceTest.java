@@ -39,7 +39,7 @@ public final class FaceTest {
         for (Class<?> inner : ModuleRows.class.getDeclaredClasses()) {
             innerClass(inner);
         }
-        source(Files.readString(Path.of(args.length > 0 ? args[0] : "src/main/java/ModuleRows.java")));
+        source(Files.readString(Path.of(System.getProperty("source", "src/main/java/ModuleRows.java"))));
         CHECK.close("FaceTest");
     }
 
