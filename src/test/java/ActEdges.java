@@ -18,6 +18,7 @@ final class ActEdges {
         timesTerms();
         times();
         oneColumn();
+        threeColumns();
     }
 
     private static int divisor(int a, int b) {
@@ -203,6 +204,42 @@ final class ActEdges {
                 }
             }
         }
+    }
+
+    /** MODULES of multiples of a divisor in each of three columns: FORMS as full as they can be, of both at once. */
+    private void threeColumns() {
+        edges.says("JOINED: made by the ROWS of both; MET: ROWS of both.");
+        int[] steps = {1, 2, 3, 4, 6, 12};
+        for (int k = 0; k < 36 * 5; k++) {
+            int[] s = {steps[k % 5], steps[k / 5 % 6], steps[k / 6 % 6]};
+            int[] t = {steps[k / 2 % 6], steps[k / 7 % 6], steps[k % 6]};
+            ModuleRows x = Check.told("modulo 12 3;");
+            for (int column = 0; column < 3; column++) {
+                comeIn(x, 0, column, s[column]);
+                comeIn(x, 1, column, t[column]);
+            }
+            int u = k % 12;
+            int[] due = {1, 1, 1, 1, 1};
+            for (int column = 0; column < 3; column++) {
+                int common = divisor(s[column], t[column]);
+                due[0] *= 12 / common;
+                due[1] *= 12 * common / (s[column] * t[column]);
+                due[2] *= 12 / divisor(12, s[column] * u);
+                due[3] *= 12 * divisor(s[column], u) / s[column];
+                due[4] *= s[column];
+            }
+            edges.due("JOINED " + k, x.join(0, 1, false, 2), due[0]);
+            edges.due("MET " + k, x.join(0, 1, true, 2), due[1]);
+            edges.due("TIMES " + k, x.times(0, u, false, 2), due[2]);
+            edges.due("BY " + k, x.times(0, u, true, 2), due[3]);
+            edges.due("UPRIGHT " + k, x.upright(0, 2), due[4]);
+        }
+    }
+
+    /** A ROW that has its one number in a column; 12 is 0. */
+    private static void comeIn(ModuleRows x, int place, int column, int step) {
+        int number = step % 12;
+        x.come(place, column == 0 ? number : 0, column == 1 ? number : 0, column == 2 ? number : 0);
     }
 
     private void oneColumnBoth(ModuleRows x, int m, int step, int u) {

@@ -13,6 +13,7 @@ final class EquationEdges {
         equate();
         equateRefused();
         drop();
+        dropped();
         equation();
         solutionTerms();
         solutions();
@@ -121,6 +122,37 @@ final class EquationEdges {
             edges.refused("drop(" + i + ")", y -> y.drop(i), NONE);
         }
         edges.refusedWithoutM("drop(0)", y -> y.drop(0), NONE);
+    }
+
+    /** What goes has no say any more: neither a dropped EQUATION nor those that sides() took the place of. */
+    private void dropped() {
+        edges.says("An EQUATION goes (those behind it are one less):");
+        String[] lines = {"equation 4 6 is 2;", "equation 0 1 is 7;", "equation 6 9 is 3;"};
+        for (int gone = 0; gone < 3; gone++) {
+            ModuleRows x = Check.told("modulo 12 2;" + lines[0] + lines[1] + lines[2]);
+            StringBuilder rest = new StringBuilder("modulo 12 2;");
+            for (int i = 0; i < 3; i++) {
+                rest.append(i == gone ? "" : lines[i]);
+            }
+            x.drop(gone);
+            sameAnswers("without " + gone, x, Check.told(rest.toString()));
+            x.drop(1);
+            x.drop(0);
+            sameAnswers("without any, last " + gone, x, Check.told("modulo 12 2;"));
+        }
+        ModuleRows x = Check.told("modulo 12 2;module;row 0 3;" + lines[0] + lines[1] + lines[2]);
+        x.sides(0);
+        sameAnswers("by sides(0)", x, Check.told("modulo 12 2;equation 0 3 is 0;"));
+        x.sides(1);
+        sameAnswers("by sides(1)", x, Check.told("modulo 12 2;"));
+    }
+
+    private void sameAnswers(String label, ModuleRows x, ModuleRows y) {
+        edges.due("solutions " + label, x.solutions(), y.solutions());
+        edges.due("solution " + label, x.solution(), y.solution());
+        edges.due("witness " + label, x.witness(), y.witness());
+        edges.due("kernel " + label, x.kernel(3), y.kernel(3));
+        edges.due("its FORM " + label, x.form(3, 0), y.form(3, 0));
     }
 
     private void equation() {

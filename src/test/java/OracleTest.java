@@ -2,6 +2,8 @@ import java.util.Random;
 
 /** Long runs of random calls, told to ModuleRows and to the oracle alike: every answer must be the same. */
 public final class OracleTest {
+    /** An object is used for 512 calls at most; a turn of the loop makes some seventy at the most. */
+    private static final int LAST_TURN = 512 - 75;
     private static final int[] ODD = {-1, -2, 4, 5, 31, 100, Integer.MAX_VALUE, Integer.MIN_VALUE, 1 << 16, -30};
 
     private final Check check = new Check();
@@ -9,6 +11,8 @@ public final class OracleTest {
     private ModuleRows x;
     private Oracle y;
     private String run;
+    /** How many calls the object has answered. */
+    private int calls;
 
     private OracleTest(long seed) {
         random = new Random(seed);
@@ -16,7 +20,7 @@ public final class OracleTest {
 
     public static void main(String[] args) {
         OracleTest test = new OracleTest(args.length > 1 ? Long.parseLong(args[0]) : 20261118L);
-        int runs = args.length > 1 ? Integer.parseInt(args[1]) : 400;
+        int runs = args.length > 1 ? Integer.parseInt(args[1]) : 600;
         for (int i = 0; i < runs && test.check.failures() < 20; i++) {
             test.oneRun(i, i % 10 == 0 ? 30 : i % 4 == 0 ? 20 : 13);
         }
@@ -27,7 +31,8 @@ public final class OracleTest {
         x = new ModuleRows();
         y = new Oracle();
         run = "run " + i + ": ";
-        for (int call = 0; call < 120; call++) {
+        calls = 0;
+        for (int call = 0; calls < LAST_TURN; call++) {
             if (call == 2 || random.nextInt(40) == 0) {
                 readText(mostModulus);
             }
@@ -248,10 +253,12 @@ public final class OracleTest {
     }
 
     private void due(String call, long got, long want) {
+        calls++;
         check.due(run + call, got, want);
     }
 
     private void due(String call, boolean got, boolean want) {
+        calls++;
         check.due(run + call, got, want);
     }
 

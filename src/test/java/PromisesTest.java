@@ -672,12 +672,12 @@ public final class PromisesTest {
     private static void undoEachAct() {
         ModuleRows x = Check.told("modulo 12 2;module;row 2 0;row 0 6;module;row 3 3;equation 1 2 is 3;");
         for (int act = 0; act < 12; act++) {
-            String before = seen(x);
+            String before = Seen.told(x);
             doAct(x, act);
-            boolean changed = !before.equals(seen(x));
+            boolean changed = !before.equals(Seen.told(x));
             due("30: act " + act + " changes something", changed, true);
             due("30: act " + act + " can be undone", x.undo(), 0);
-            due("30: act " + act + " is undone", before.equals(seen(x)), true);
+            due("30: act " + act + " is undone", before.equals(Seen.told(x)), true);
         }
     }
 
@@ -698,22 +698,6 @@ public final class PromisesTest {
         }
     }
 
-    /** MODULES and EQUATIONS as the calls tell them. */
-    private static String seen(ModuleRows x) {
-        StringBuilder all = new StringBuilder();
-        for (int place = 0; place < 4; place++) {
-            for (int column = 0; column < 3; column++) {
-                all.append(x.form(place, column)).append(' ');
-            }
-        }
-        for (int i = 0; i < 3; i++) {
-            for (int what = 0; what < 4; what++) {
-                all.append(x.equation(i, what)).append(' ');
-            }
-        }
-        return all.append(x.now(0)).append(' ').append(x.now(1)).append(' ').append(x.now(2)).toString();
-    }
-
     private static void image() {
         ModuleRows x = Check.told("modulo 12 2;module;row 2 0;equation 1 2 is 3;");
         due("31: place 2", x.image(2), false);
@@ -721,23 +705,23 @@ public final class PromisesTest {
         due("31: least", x.image(LEAST), false);
         due("31: nothing was kept", x.restore(0), false);
         x.come(1, 1, 1, 0);
-        String first = seen(x);
+        String first = Seen.told(x);
         due("31: place 0", x.image(0), true);
         due("31: no act", x.now(3), 1);
         x.drop(0);
-        String second = seen(x);
+        String second = Seen.told(x);
         due("31: place 1", x.image(1), true);
         x.clear(0, true);
         x.restore(0);
-        due("31: the first", first.equals(seen(x)), true);
+        due("31: the first", first.equals(Seen.told(x)), true);
         x.restore(1);
-        due("31: the second", second.equals(seen(x)), true);
+        due("31: the second", second.equals(Seen.told(x)), true);
         x.clear(0, true);
-        String third = seen(x);
+        String third = Seen.told(x);
         x.image(1);
         x.clear(0, false);
         x.restore(1);
-        due("31: kept anew", third.equals(seen(x)), true);
+        due("31: kept anew", third.equals(Seen.told(x)), true);
     }
 
     private static void restore() {
@@ -748,21 +732,21 @@ public final class PromisesTest {
         x.come(0, 3, 0, 0);
         due("32: acts stay where it is false", x.restore(0), false);
         due("32: so", x.now(3), 1);
-        String kept = seen(x);
+        String kept = Seen.told(x);
         x.image(0);
         Check.read(x, "modulo 5 1;module;row 1;");
         Check.read(x, "modulo 99 1;");
         x.come(1, 1, 0, 0);
         x.feed(0, 0, 0, 0, 0);
         due("32: true", x.restore(0), true);
-        due("32: as kept", kept.equals(seen(x)), true);
+        due("32: as kept", kept.equals(Seen.told(x)), true);
         due("32: the tape stays", x.now(4), 20);
         due("32: fault() stays", x.fault(), 2);
         due("32: nothing can be undone", x.now(3), 0);
         due("32: undo()", x.undo(), NONE);
         x.clear(0, true);
         due("32: twice", x.restore(0), true);
-        due("32: the image is its own", kept.equals(seen(x)), true);
+        due("32: the image is its own", kept.equals(Seen.told(x)), true);
         ModuleRows none = new ModuleRows();
         none.image(1);
         Check.read(none, "modulo 5 1;");
